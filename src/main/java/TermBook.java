@@ -52,9 +52,9 @@ public final class TermBook {
     }
 
     public int clear() {
-        int had = tape.length;
+        int length = tape.length;
         tape.empty();
-        return had;
+        return length;
     }
 
     public int add(int kind) {
@@ -133,9 +133,9 @@ public final class TermBook {
             return FULL;
         }
         for (int number = 0; number < NUMBERS; number++) {
-            Term had = inBook(number);
-            if (had != null && had.uses > 0) {
-                had.keepFor(slot);
+            Term looked = inBook(number);
+            if (looked != null && looked.uses > 0) {
+                looked.keepFor(slot);
             }
         }
         kept[slot] = ended;
@@ -150,9 +150,9 @@ public final class TermBook {
         }
         kept[slot] = NONE;
         for (int number = 0; number < NUMBERS; number++) {
-            Term had = inBook(number);
-            if (had != null) {
-                had.giveUpFor(slot);
+            Term looked = inBook(number);
+            if (looked != null) {
+                looked.giveUpFor(slot);
             }
         }
         return takeOutUnneeded();
