@@ -583,7 +583,7 @@ public final class TermBook {
         }
 
         private void part(int leaf) {
-            if (parts >= sizes.length) {
+            if (leaf < 0 || leaf >= parts || parts >= sizes.length) {
                 return;
             }
             for (int i = parts; i > leaf + 1; i--) {
@@ -616,6 +616,9 @@ public final class TermBook {
         }
 
         private void joinNext(int leaf) {
+            if (leaf < 0 || leaf + 1 >= parts || parts > sizes.length) {
+                return;
+            }
             resize(leaf, sizeOf(leaf + 1));
             parts--;
             for (int i = leaf + 1; i < parts; i++) {

@@ -38,6 +38,7 @@ public final class FaceTest {
                 seen.add(signature(method));
                 check.due(method.getName() + " answers an int", method.getReturnType() == int.class ? 1 : 0, 1);
                 check.due(method.getName() + " is public", Modifier.isPublic(method.getModifiers()) ? 1 : 0, 1);
+                check.due(method.getName() + " is an object's", Modifier.isStatic(method.getModifiers()) ? 1 : 0, 0);
             }
         }
         check.due("visible methods", seen.size(), METHODS.length);
@@ -61,8 +62,11 @@ public final class FaceTest {
     private static void fields(Check check) {
         int visible = 0;
         for (Field field : TermBook.class.getDeclaredFields()) {
-            if (!Modifier.isPrivate(field.getModifiers())) {
+            int modifiers = field.getModifiers();
+            if (!Modifier.isPrivate(modifiers)) {
                 visible++;
+                boolean constant = Modifier.isPublic(modifiers) && Modifier.isStatic(modifiers) && Modifier.isFinal(modifiers);
+                check.due(field + " is a public constant", constant && field.getType() == int.class ? 1 : 0, 1);
             }
         }
         check.due("visible fields", visible, 3);

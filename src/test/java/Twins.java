@@ -1,6 +1,6 @@
 /**
- * Two books made alike, one of which is asked for what it must refuse. Behind that both must answer
- * alike whatever they are asked. A book is asked no more than 512 times in all.
+ * Two books made alike, one of which is asked for what it must refuse, or for what it only reads. Behind
+ * that both must answer alike whatever they are asked. A book is asked no more than 512 times in all.
  */
 final class Twins {
     /** Where a book has no more terms than this, all can be read of it within its calls. */
@@ -27,6 +27,11 @@ final class Twins {
         TermBook other = making.book();
         other.clear();
         alike(check, name, asked, other);
+    }
+
+    /** A call that only reads: two books made alike answer it alike, and nothing has changed behind it. */
+    static void read(Check check, String name, Books.Making making, Call call) {
+        refused(check, name, making, call, call.on(making.book()));
     }
 
     private static void alike(Check check, String name, TermBook got, TermBook want) {
